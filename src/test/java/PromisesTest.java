@@ -25,12 +25,19 @@ public final class PromisesTest {
         try {
             got = Long.toString(call.answer());
         } catch (RuntimeException e) {
-            got = e.getClass().getSimpleName();
+            got = thrown(e);
         }
         if (!got.equals(want)) {
             wrong++;
             System.out.println(what + " answered " + got + ", due is " + want);
         }
+    }
+
+    /** What the program does not throw itself, but the machine or the library in it, is never due. */
+    private static String thrown(RuntimeException e) {
+        String by = e.getStackTrace()[0].getClassName();
+        String name = e.getClass().getSimpleName();
+        return by.equals("LayerBudgets") ? name : name + " of " + by;
     }
 
     /** One block for each row; a row holds bytes and gain of each pass in turn. */
@@ -312,6 +319,25 @@ public final class PromisesTest {
         }
     }
 
+    private static void promise7NothingIsLeftBehindAllPasses() {
+        LayerBudgets x = with(passes(2, 10, 4, 4), passes(3, 9, 1, -1));
+        due("7: without budget first", () -> x.layer(NONE), 10);
+        due("7: behind it", () -> x.layer(100), 10);
+        dueLayer("7: all passes", x, 0, 10, noThreshold(), 2, 2);
+        dueLayer("7: all passes still", x, 1, 10, noThreshold(), 2, 2);
+    }
+
+    private static void promises3And4StepsCanBeTakenAgain() {
+        LayerBudgets x = with(passes(2, 10), passes(3, 9));
+        x.layer(5);
+        x.pass(1, 1, 1);
+        due("4: taken again behind a pass", () -> x.layer(5), 5);
+        dueLayer("4: taken again", x, 0, 5, threshold(9, 3), 1, 1);
+        x.block();
+        due("3: taken again behind a block", () -> x.layer(2), 2);
+        dueLayer("3: taken again", x, 0, 2, threshold(10, 2), 1, 0, 0);
+    }
+
     private static void promise7SmallerSlopesStayOut() {
         LayerBudgets x = with(passes(10, 100), passes(1, 5));
         due("7: nothing of a smaller slope that would fit", () -> x.layer(9), 0);
@@ -406,6 +432,8 @@ public final class PromisesTest {
         promise5And6GreatGains();
         promise5And6WrongInputs();
         promise7To11Layers();
+        promise7NothingIsLeftBehindAllPasses();
+        promises3And4StepsCanBeTakenAgain();
         promise7SmallerSlopesStayOut();
         promise7EqualSlopesTogether();
         promise7WithoutBytes();

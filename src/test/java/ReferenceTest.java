@@ -200,8 +200,15 @@ public final class ReferenceTest {
         try {
             return "" + call.answer();
         } catch (RuntimeException e) {
-            return e.getClass().getSimpleName();
+            return thrown(e);
         }
+    }
+
+    /** What the program does not throw itself, but the machine or the library in it, is never due. */
+    private static String thrown(RuntimeException e) {
+        String by = e.getStackTrace()[0].getClassName();
+        String name = e.getClass().getSimpleName();
+        return by.equals("LayerBudgets") ? name : name + " of " + by;
     }
 
     private static int wrong = 0;
@@ -245,7 +252,8 @@ public final class ReferenceTest {
 
         long someGain() {
             if (random.nextInt(100) == 0) {
-                return random.nextBoolean() ? MOST_GAIN + 1 : -MOST_GAIN - 1;
+                long beyond = MOST_GAIN + random.nextInt(2);
+                return random.nextBoolean() ? beyond : -beyond;
             }
             long gain = (long) (random.nextDouble() * (mostGain + 1));
             return lowestGain == 0 || random.nextInt(lowestGain + 1) == 0 ? gain : -gain / (3 - lowestGain);
